@@ -126,7 +126,7 @@ public final class Flowforge {
             throw new IllegalStateException("there are not 2 machines");
         }
         fillByRule(order, 0, 1);
-        return scheduleJobs(PLAIN, order, jobCount);
+        return scheduleOrder(PLAIN);
     }
 
     public int orderByInsertion() {
@@ -135,14 +135,15 @@ public final class Flowforge {
             order[last] = queue[last];
             shift(order, last, placeForLast(last));
         }
-        return scheduleJobs(PLAIN, order, jobCount);
+        return scheduleOrder(PLAIN);
     }
 
     public int improve() {
-        int before = scheduleJobs(PLAIN, order, jobCount);
+        int before = scheduleOrder(PLAIN);
         int least = before;
         int bestFrom = 0;
         int bestTo = 0;
+        // The place that a job has is tried as well, but it is never less.
         for (int from = 0; from < jobCount; from++) {
             for (int to = 0; to < jobCount; to++) {
                 int after = makespanIfShifted(from, to, jobCount);
@@ -163,19 +164,19 @@ public final class Flowforge {
 
     public int makespan(int variant) throws IllegalArgumentException {
         requireVariant(variant);
-        return scheduleJobs(variant, order, jobCount);
+        return scheduleOrder(variant);
     }
 
     public int begin(int variant, int place, int machine) throws IllegalArgumentException, IndexOutOfBoundsException {
         requireVariant(variant);
         requirePlace(place);
         requireMachine(machine);
-        scheduleJobs(variant, order, jobCount);
+        scheduleOrder(variant);
         return begins[cell(place, machine)];
     }
 
     public int totalTime() {
-        scheduleJobs(PLAIN, order, jobCount);
+        scheduleOrder(PLAIN);
         int total = 0;
         for (int place = 0; place < jobCount; place++) {
             total += ends[cell(place, machineCount - 1)];
@@ -186,7 +187,7 @@ public final class Flowforge {
     public int head(int place, int machine) throws IndexOutOfBoundsException {
         requirePlace(place);
         requireMachine(machine);
-        scheduleJobs(PLAIN, order, jobCount);
+        scheduleOrder(PLAIN);
         return ends[cell(place, machine)];
     }
 
@@ -200,7 +201,7 @@ public final class Flowforge {
     public boolean isCritical(int place, int machine) throws IndexOutOfBoundsException {
         requirePlace(place);
         requireMachine(machine);
-        int whole = scheduleJobs(PLAIN, order, jobCount);
+        int whole = scheduleOrder(PLAIN);
         fillTails();
         int here = cell(place, machine);
         return ends[here] + tails[here] - timeOf(order[place], machine) == whole;
@@ -212,7 +213,7 @@ public final class Flowforge {
         if (jobCount == 0) {
             return 0;
         }
-        scheduleJobs(variant, order, jobCount);
+        scheduleOrder(variant);
         return ends[cell(jobCount - 1, machine)] - begins[cell(0, machine)] - loadOf(machine);
     }
 
@@ -252,7 +253,7 @@ public final class Flowforge {
     }
 
     public double gap() {
-        int own = scheduleJobs(PLAIN, order, jobCount);
+        int own = scheduleOrder(PLAIN);
         findBestOrder(PLAIN);
         int least = leastMakespans[PLAIN];
         if (least == 0) {
@@ -351,7 +352,10 @@ public final class Flowforge {
     private int makespanIfShifted(int from, int to, int count) {
         System.arraycopy(order, 0, trial, 0, count);
         shift(trial, from, to);
-        return scheduleJobs(PLAIN, trial, count);
+        for (int place = 0; place < count; place++) {
+            scheduleJob(PLAIN, place, trial[place]);
+        }
+        return lastEnd(count);
     }
 
     private int placeForLast(int last) {
@@ -417,12 +421,12 @@ public final class Flowforge {
 
     // ---- schedules
 
-    /** Fills begins and ends for the first jobs of a list, and answers their makespan. */
-    private int scheduleJobs(int variant, int[] list, int count) {
-        for (int place = 0; place < count; place++) {
-            scheduleJob(variant, place, list[place]);
+    /** Fills begins and ends, and answers the makespan. */
+    private int scheduleOrder(int variant) {
+        for (int place = 0; place < jobCount; place++) {
+            scheduleJob(variant, place, order[place]);
         }
-        return lastEnd(count);
+        return lastEnd(jobCount);
     }
 
     private int lastEnd(int count) {
@@ -492,7 +496,6 @@ public final class Flowforge {
         if (solved[variant]) {
             return;
         }
-        leastMakespans[variant] = Integer.MAX_VALUE;
         leastCounts[variant] = 0;
         for (int place = 0; place < jobCount; place++) {
             trial[place] = place;
@@ -509,7 +512,7 @@ public final class Flowforge {
     }
 
     private void countTrial(int variant, int makespan) {
-        if (makespan < leastMakespans[variant]) {
+        if (leastCounts[variant] == 0 || makespan < leastMakespans[variant]) {
             leastMakespans[variant] = makespan;
             leastCounts[variant] = 0;
             System.arraycopy(trial, 0, bestJobs, variant * MAX_JOBS, jobCount);

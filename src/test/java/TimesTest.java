@@ -76,6 +76,18 @@ final class TimesTest {
         CHECK.same("time(0, 1)", 0, shop.time(0, 1));
         CHECK.same("time(1, 1)", 0, shop.time(1, 1));
         CHECK.same("makespan(0)", 32, shop.makespan(0));
+
+        Flowforge full = new Flowforge();
+        full.setMachines(5);
+        for (int job = 0; job < 7; job++) {
+            full.addJob();
+            full.setTime(job, 4, 99);
+        }
+        CHECK.same("setMachines(4) with 7 jobs", 5, full.setMachines(4));
+        CHECK.same("setMachines(5) with 7 jobs", 4, full.setMachines(5));
+        for (int job = 0; job < 7; job++) {
+            CHECK.same("time(" + job + ", 4)", 0, full.time(job, 4));
+        }
     }
 
     private static void timesAreSet() {
