@@ -16,6 +16,10 @@ final class Check {
         }
     }
 
+    int looked() {
+        return looked;
+    }
+
     /** The call must throw exactly this class, not one below it. */
     void fails(String what, Class<? extends RuntimeException> want, Runnable call) {
         same(what, "throws " + want.getSimpleName(), outcome(call));

@@ -20,6 +20,23 @@ final class Shops {
         return times;
     }
 
+    /** A new shop with the same machines, jobs, times and order. */
+    static Flowforge copy(Flowforge shop) {
+        int jobs = shop.jobs();
+        int machines = shop.machines();
+        int[][] rows = new int[jobs][machines];
+        int[] order = new int[jobs];
+        for (int job = 0; job < jobs; job++) {
+            for (int machine = 0; machine < machines; machine++) {
+                rows[job][machine] = shop.time(job, machine);
+            }
+            order[job] = shop.jobAt(job);
+        }
+        Flowforge copy = of(machines, rows);
+        arrange(copy, order);
+        return copy;
+    }
+
     static void arrange(Flowforge shop, int... jobs) {
         for (int place = 0; place < jobs.length; place++) {
             shop.move(jobs[place], place);
@@ -28,7 +45,8 @@ final class Shops {
 
     static String order(Flowforge shop) {
         StringBuilder text = new StringBuilder();
-        for (int place = 0; place < shop.jobs(); place++) {
+        int jobs = shop.jobs();
+        for (int place = 0; place < jobs; place++) {
             text.append(shop.jobAt(place));
         }
         return text.toString();
@@ -36,7 +54,8 @@ final class Shops {
 
     static String bestOrder(Flowforge shop, int variant) {
         StringBuilder text = new StringBuilder();
-        for (int place = 0; place < shop.jobs(); place++) {
+        int jobs = shop.jobs();
+        for (int place = 0; place < jobs; place++) {
             text.append(shop.bestAt(variant, place));
         }
         return text.toString();
