@@ -8,7 +8,7 @@ import java.util.List;
 import java.util.Map;
 import java.util.Set;
 
-/** The sentences of ../shared/DOC.md that tell what the class does, by the heading that they stand under. */
+/** What ../shared/DOC.md says: its sentences, by the heading that they stand under, and its groups of calls. */
 final class Document {
     private static final Path FILE = Path.of("..", "shared", "DOC.md");
 
@@ -16,6 +16,7 @@ final class Document {
     private static final Set<String> SILENT = Set.of("A library for permutation flow shops.", "Jobs and machines.",
         "Variants.", "Comparing orders.");
     private static final String COMMENT_OF_THE_FACE = "Ahead of the calls ";
+    private static final String END_OF_THE_CALLS = " the interface says: ---- ";
 
     private Document() {
     }
@@ -34,6 +35,20 @@ final class Document {
             }
         }
         return sentences;
+    }
+
+    /** The names of the calls, by what the interface says ahead of them. */
+    static Map<String, List<String>> groups() {
+        Map<String, List<String>> groups = new LinkedHashMap<>();
+        for (String line : lines()) {
+            if (line.startsWith(COMMENT_OF_THE_FACE)) {
+                int end = line.indexOf(END_OF_THE_CALLS);
+                String calls = line.substring(COMMENT_OF_THE_FACE.length(), end).replace("`", "");
+                String title = line.substring(end + END_OF_THE_CALLS.length()).replaceFirst("\\.$", "");
+                groups.put(title, List.of(calls.split(", ")));
+            }
+        }
+        return groups;
     }
 
     private static boolean tellsAnswers(String heading) {
